@@ -199,6 +199,8 @@ public final class BagTest {
 
     private static void promise9DecideRefused() {
         BagHall hall = everyPlace();
+        // No bag leaves its place in these minutes: each has been there for longer than any level takes.
+        Check.equal("pass(20) of a hall with a bag at each place", 0, hall.pass(20));
         for (int bag = 0; bag < hall.bags(); bag++) {
             int number = bag;
             if (hall.placeOf(bag) > BagHall.SCREEN_3) {

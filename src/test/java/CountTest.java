@@ -171,43 +171,6 @@ public final class CountTest {
         Check.equal("scans() behind load, offload, sendOn", 6, hall.scans());
         hall.pass(56);
         Check.equal("scans() behind the departure", 7, hall.scans());
-        mostScans();
-    }
-
-    /** The dearest run of 512 calls: bags go round by the loop, the store and the lateral, and are late. */
-    private static void mostScans() {
-        BagHall hall = new BagHall();
-        int scans = 0;
-        int calls = 0;
-        for (int flight = 0; flight < 10; flight++) {
-            hall.addFlight(80);
-            calls++;
-            for (int bag = 0; bag < 48; bag++) {
-                if (flight == 0) {
-                    hall.transfer(flight, bag % 40);
-                } else {
-                    hall.sendOn(bag, flight);
-                }
-                calls++;
-                scans++;
-                if (calls > 512 - 2) {
-                    break;
-                }
-            }
-            if (calls > 512 - 2) {
-                break;
-            }
-            int moved = hall.pass(80);
-            calls++;
-            Check.equal("scans of 48 bags in 80 minutes", flight == 0 ? 48 * 2 : hall.scans() - scans, moved);
-            scans += moved;
-            Check.equal("count(LATE)", 48, hall.count(BagHall.LATE));
-        }
-        Check.equal("scans() of a long run", scans, hall.scans());
-        for (int scan = 0; scan < scans; scan++) {
-            Check.isTrue("bagOfScan(" + scan + ")", hall.bagOfScan(scan) >= 0 && hall.bagOfScan(scan) < 48);
-        }
-        Check.noIndex("bagOfScan behind the last one", hall, () -> hall.bagOfScan(hall.scans()));
     }
 
     private static void promises23And24Scan() {
