@@ -198,7 +198,7 @@ public final class BagTest {
     }
 
     private static void promise9DecideRefused() {
-        BagHall hall = everyPlace();
+        BagHall hall = Halls.everyPlace();
         // No bag leaves its place in these minutes: each has been there for longer than any level takes.
         Check.equal("pass(20) of a hall with a bag at each place", 0, hall.pass(20));
         for (int bag = 0; bag < hall.bags(); bag++) {
@@ -217,7 +217,7 @@ public final class BagTest {
         for (int i = 0; i < places.length; i++) {
             BagHall hall = new BagHall();
             hall.addFlight(untilDeparture[i] + 16);
-            hold(hall, hall.checkIn(0, 0));
+            Halls.hold(hall, hall.checkIn(0, 0));
             Check.equal("letGo(0) " + untilDeparture[i] + " minutes before", places[i], hall.letGo(0));
             Check.equal("placeOf(0) then", places[i], hall.placeOf(0));
             Check.equal("scans() then", 5, hall.scans());
@@ -225,7 +225,7 @@ public final class BagTest {
         }
         BagHall full = new BagHall();
         full.addFlight(500);
-        hold(full, full.checkIn(0, 0));
+        Halls.hold(full, full.checkIn(0, 0));
         for (int bag = 0; bag < 8; bag++) {
             full.transfer(0, 0);
         }
@@ -233,7 +233,7 @@ public final class BagTest {
     }
 
     private static void promise10LetGoRefused() {
-        BagHall hall = everyPlace();
+        BagHall hall = Halls.everyPlace();
         for (int bag = 0; bag < hall.bags(); bag++) {
             int number = bag;
             if (hall.placeOf(bag) != BagHall.HELD) {
@@ -266,7 +266,7 @@ public final class BagTest {
     }
 
     private static void promise11LoadRefused() {
-        BagHall hall = everyPlace();
+        BagHall hall = Halls.everyPlace();
         for (int bag = 0; bag < hall.bags(); bag++) {
             int number = bag;
             if (hall.placeOf(bag) != BagHall.LATERAL) {
@@ -297,7 +297,7 @@ public final class BagTest {
     }
 
     private static void promise12OffloadRefused() {
-        BagHall hall = everyPlace();
+        BagHall hall = Halls.everyPlace();
         for (int bag = 0; bag < hall.bags(); bag++) {
             int number = bag;
             if (hall.placeOf(bag) != BagHall.LOADED) {
@@ -357,8 +357,8 @@ public final class BagTest {
     }
 
     private static void promise13SendOnRefused() {
-        BagHall hall = everyPlace();
-        int departed = hall.flightOf(FLOWN_BAG);
+        BagHall hall = Halls.everyPlace();
+        int departed = hall.flightOf(Halls.FLOWN_BAG);
         for (int bag = 0; bag < hall.bags(); bag++) {
             int number = bag;
             int place = hall.placeOf(bag);
@@ -403,7 +403,7 @@ public final class BagTest {
     }
 
     private static void promise15PlaceOf() {
-        BagHall hall = everyPlace();
+        BagHall hall = Halls.everyPlace();
         int[] found = new int[12];
         for (int bag = 0; bag < hall.bags(); bag++) {
             int place = hall.placeOf(bag);
@@ -478,46 +478,5 @@ public final class BagTest {
         for (int bag : noBags) {
             Check.noIndex(what + " of bag " + bag, hall, () -> call.run(bag));
         }
-    }
-
-    private static void hold(BagHall hall, int bag) {
-        hall.pass(2);
-        hall.decide(bag, false);
-        hall.pass(4);
-        hall.decide(bag, false);
-        hall.pass(10);
-        hall.decide(bag, false);
-    }
-
-    private static final int FLOWN_BAG = 0;
-
-    /** A hall with a bag at each place, at the time 19: flight 0 has departed, 1 is open, 2 is not yet. */
-    private static BagHall everyPlace() {
-        BagHall hall = new BagHall();
-        hall.addFlight(17);
-        hall.addFlight(70);
-        hall.addFlight(300);
-        hall.board(0, true);
-        for (int bag = 0; bag < 3; bag++) {
-            hall.transfer(0, bag);
-        }
-        hall.load(0);
-        hall.load(1);
-        hold(hall, hall.checkIn(1, 3));
-        hall.checkIn(1, 4);
-        hall.checkIn(1, 5);
-        hall.pass(2);
-        hall.decide(4, false);
-        hall.decide(5, false);
-        hall.checkIn(1, 6);
-        hall.transfer(1, 7);
-        hall.transfer(1, 8);
-        hall.load(7);
-        for (int bag = 0; bag < 10; bag++) {
-            hall.transfer(2, 9);
-        }
-        hall.pass(4);
-        hall.decide(5, false);
-        return hall;
     }
 }

@@ -19,31 +19,17 @@ public final class MinuteTest {
         Check.end("MinuteTest");
     }
 
-    private static BagHall withFlights(int... minutes) {
-        BagHall hall = new BagHall();
-        for (int flight : minutes) {
-            hall.addFlight(flight);
-        }
-        return hall;
-    }
-
-    private static void transfer(BagHall hall, int flight, int bags) {
-        for (int bag = 0; bag < bags; bag++) {
-            hall.transfer(flight, bag);
-        }
-    }
-
     private static void storeFillsBeforeLoop() {
-        BagHall hall = withFlights(500, 600);
-        transfer(hall, 0, 7);
-        transfer(hall, 1, 3);
+        BagHall hall = Halls.withFlights(500, 600);
+        Halls.transfer(hall, 0, 7);
+        Halls.transfer(hall, 1, 3);
         Check.equal("the first 8 to the store, the others to the loop",
                 " 0@5 1@5 2@5 3@5 4@5 5@5 6@5 7@5 8@6 9@6", Check.scansFrom(hall, 0));
     }
 
     private static void storeEmptiesInItsOrder() {
-        BagHall hall = withFlights(70);
-        transfer(hall, 0, 8);
+        BagHall hall = Halls.withFlights(70);
+        Halls.transfer(hall, 0, 8);
         Check.equal("pass(9)", 0, hall.pass(9));
         Check.equal("pass(1), as the flight opens", 3, hall.pass(1));
         Check.equal("pass(1), next", 3, hall.pass(1));
@@ -53,7 +39,7 @@ public final class MinuteTest {
     }
 
     private static void storeKeepsWhatHasNotOpened() {
-        BagHall hall = withFlights(200, 70);
+        BagHall hall = Halls.withFlights(200, 70);
         for (int bag = 0; bag < 8; bag++) {
             hall.transfer(bag % 2, bag);
         }
@@ -69,9 +55,9 @@ public final class MinuteTest {
 
     /** Bag 0 comes to the store behind bags 1 to 4, and leaves it behind them. */
     private static void storeOrderIsOfComingNotOfNumbers() {
-        BagHall hall = withFlights(80);
+        BagHall hall = Halls.withFlights(80);
         hall.checkIn(0, 0);
-        transfer(hall, 0, 4);
+        Halls.transfer(hall, 0, 4);
         hall.pass(2);
         hall.decide(0, true);
         hall.pass(18);
@@ -83,10 +69,10 @@ public final class MinuteTest {
 
     /** Flight 1 opens first: bags 8 to 10 come out of the loop into the places left, and leave last. */
     private static void storeOrderBehindTheLoop() {
-        BagHall hall = withFlights(90, 70);
+        BagHall hall = Halls.withFlights(90, 70);
         hall.checkIn(0, 0);
-        transfer(hall, 0, 4);
-        transfer(hall, 1, 4);
+        Halls.transfer(hall, 0, 4);
+        Halls.transfer(hall, 1, 4);
         hall.pass(2);
         Check.equal("decide(0, true) with a full store", BagHall.LOOP, hall.decide(0, true));
         hall.transfer(0, 0);
@@ -99,10 +85,10 @@ public final class MinuteTest {
     }
 
     private static void storeComesBeforeLoop() {
-        BagHall hall = withFlights(70, 500);
-        transfer(hall, 0, 8);
-        transfer(hall, 1, 4);
-        transfer(hall, 0, 1);
+        BagHall hall = Halls.withFlights(70, 500);
+        Halls.transfer(hall, 0, 8);
+        Halls.transfer(hall, 1, 4);
+        Halls.transfer(hall, 0, 1);
         hall.pass(10);
         Check.equal("the store first, then the loop into what room is left",
                 " 0@7 1@7 2@7 8@5 9@5 10@5 12@7", Check.scansFrom(hall, 13));
@@ -116,10 +102,10 @@ public final class MinuteTest {
     }
 
     private static void loopGoesByNumbers() {
-        BagHall hall = withFlights(500, 70);
+        BagHall hall = Halls.withFlights(500, 70);
         hall.checkIn(0, 0);
-        transfer(hall, 1, 8);
-        transfer(hall, 0, 3);
+        Halls.transfer(hall, 1, 8);
+        Halls.transfer(hall, 0, 3);
         hall.pass(2);
         hall.decide(0, true);
         hall.pass(8);
@@ -128,8 +114,8 @@ public final class MinuteTest {
     }
 
     private static void loopIsNotScannedAgain() {
-        BagHall hall = withFlights(1000);
-        transfer(hall, 0, 20);
+        BagHall hall = Halls.withFlights(1000);
+        Halls.transfer(hall, 0, 20);
         Check.equal("no scan while nothing opens", 0, Check.passLong(hall, 939));
         Check.equal("count(LOOP)", 12, hall.count(BagHall.LOOP));
         Check.equal("placeByScans(19, 939)", BagHall.LOOP, hall.placeByScans(19, 939));
@@ -137,16 +123,16 @@ public final class MinuteTest {
     }
 
     private static void loopGoesToLateralWithoutLimit() {
-        BagHall hall = withFlights(61);
-        transfer(hall, 0, 14);
+        BagHall hall = Halls.withFlights(61);
+        Halls.transfer(hall, 0, 14);
         hall.pass(1);
         Check.equal("the order", " 0@7 1@7 2@7 8@7 9@7 10@7 11@7 12@7 13@7", Check.scansFrom(hall, 14));
     }
 
     private static void loopGoesToLateralPastAFullStore() {
-        BagHall hall = withFlights(500, 70);
-        transfer(hall, 0, 8);
-        transfer(hall, 1, 2);
+        BagHall hall = Halls.withFlights(500, 70);
+        Halls.transfer(hall, 0, 8);
+        Halls.transfer(hall, 1, 2);
         Check.equal("pass(9)", 0, hall.pass(9));
         Check.equal("pass(1)", 2, hall.pass(1));
         Check.equal("no other bag is at a lateral", " 8@7 9@7", Check.scansFrom(hall, 10));
@@ -154,7 +140,7 @@ public final class MinuteTest {
     }
 
     private static void openingMinute() {
-        BagHall hall = withFlights(61);
+        BagHall hall = Halls.withFlights(61);
         hall.transfer(0, 0);
         Check.equal("61 minutes before", BagHall.STORE, hall.placeOf(0));
         hall.pass(1);
@@ -165,7 +151,7 @@ public final class MinuteTest {
     }
 
     private static void closingMinute() {
-        BagHall hall = withFlights(12);
+        BagHall hall = Halls.withFlights(12);
         hall.transfer(0, 0);
         hall.pass(1);
         hall.transfer(0, 0);
@@ -182,8 +168,8 @@ public final class MinuteTest {
     }
 
     private static void departure() {
-        BagHall hall = withFlights(30, 31);
-        transfer(hall, 0, 6);
+        BagHall hall = Halls.withFlights(30, 31);
+        Halls.transfer(hall, 0, 6);
         hall.checkIn(0, 6);
         hall.transfer(1, 0);
         for (int bag = 0; bag < 4; bag++) {
@@ -212,7 +198,7 @@ public final class MinuteTest {
     }
 
     private static void departuresByNumbers() {
-        BagHall hall = withFlights(30, 30, 30);
+        BagHall hall = Halls.withFlights(30, 30, 30);
         hall.transfer(2, 0);
         hall.transfer(1, 0);
         hall.transfer(0, 0);
@@ -223,8 +209,8 @@ public final class MinuteTest {
     }
 
     private static void boardingIsAskedAtTheDeparture() {
-        BagHall hall = withFlights(30, 40);
-        transfer(hall, 0, 2);
+        BagHall hall = Halls.withFlights(30, 40);
+        Halls.transfer(hall, 0, 2);
         hall.load(0);
         hall.load(1);
         hall.board(1, true);
@@ -243,7 +229,7 @@ public final class MinuteTest {
 
     /** A flight departs in the minute in which the next one at its lateral opens. */
     private static void lateralIsSharedInTurn() {
-        BagHall hall = withFlights(50, 110);
+        BagHall hall = Halls.withFlights(50, 110);
         Check.equal("lateralOf(1)", 0, hall.lateralOf(1));
         hall.transfer(0, 0);
         hall.transfer(1, 0);

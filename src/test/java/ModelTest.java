@@ -5,13 +5,7 @@
 public final class ModelTest {
     private static final int CALLS = 512;
 
-    private static final String[] CHANGES = {
-        "addFlight", "board", "pass", "checkIn", "transfer", "decide", "letGo", "load", "offload", "sendOn"};
-    private static final String[] READS = {
-        "time", "lateralOf", "bags", "placeOf", "placeByScans", "flightOf", "count", "atLateral",
-        "unmatched", "untilClose", "scans", "bagOfScan", "placeOfScan"};
-
-    /** How often each call of CHANGES is drawn, by the kind of the run. */
+    /** How often each call of Calls.CHANGES is drawn, by the kind of the run. */
     private static final int[][] WEIGHTS = {
         {2, 4, 8, 10, 10, 16, 6, 12, 4, 8},
         {2, 2, 12, 2, 20, 4, 2, 10, 6, 20},
@@ -54,7 +48,7 @@ public final class ModelTest {
 
     private static String drawName(int run) {
         if (draw(5) == 0) {
-            return READS[draw(READS.length)];
+            return Calls.READS[draw(Calls.READS.length)];
         }
         int[] weights = WEIGHTS[run % WEIGHTS.length];
         int sum = 0;
@@ -67,7 +61,7 @@ public final class ModelTest {
             drawn -= weights[name];
             name++;
         }
-        return CHANGES[name];
+        return Calls.CHANGES[name];
     }
 
     /** Mostly what there is; now and then a number at or beyond an edge. */
@@ -144,7 +138,7 @@ public final class ModelTest {
 
     private static boolean same(String what, BagHall hall, PlainHall plain, String name, int a, int b) {
         String due = plain.call(name, a, b);
-        String got = answer(hall, name, a, b);
+        String got = Calls.answer(hall, name, a, b);
         if (!due.equals(got)) {
             Check.fail(what + name + "(" + a + ", " + b + ") answered " + got + ", due is " + due);
             return false;
@@ -220,11 +214,11 @@ public final class ModelTest {
         }
         for (int minute = 0; minute < 300; minute++) {
             namedOnly(hall, "pass", 1, 0);
-            for (String read : READS) {
+            for (String read : Calls.READS) {
                 namedOnly(hall, read, minute * 9, minute);
             }
             for (int bag = 0; bag < 48; bag++) {
-                namedOnly(hall, CHANGES[3 + (minute + bag) % 7], bag, bag % 3);
+                namedOnly(hall, Calls.CHANGES[3 + (minute + bag) % 7], bag, bag % 3);
             }
         }
         Check.isTrue("the scans of 512 calls stay", hall.scans() >= 2 * CALLS);
@@ -232,47 +226,10 @@ public final class ModelTest {
     }
 
     private static void namedOnly(BagHall hall, String name, int a, int b) {
-        String got = answer(hall, name, a, b);
+        String got = Calls.answer(hall, name, a, b);
         boolean isNamed = got.equals(PlainHall.INDEX) || got.equals(PlainHall.ARGUMENT) || got.equals(PlainHall.STATE);
         if (got.endsWith("Exception") && !isNamed) {
             Check.fail("behind the 512th call " + name + "(" + a + ", " + b + ") answered " + got);
-        }
-    }
-
-    private static String answer(BagHall hall, String name, int a, int b) {
-        try {
-            return "" + call(hall, name, a, b);
-        } catch (RuntimeException e) {
-            return e.getClass().getSimpleName();
-        }
-    }
-
-    private static int call(BagHall hall, String name, int a, int b) {
-        switch (name) {
-            case "addFlight": return hall.addFlight(a);
-            case "board": return hall.board(a, b != 0) ? 1 : 0;
-            case "pass": return hall.pass(a);
-            case "time": return hall.time();
-            case "lateralOf": return hall.lateralOf(a);
-            case "checkIn": return hall.checkIn(a, b);
-            case "transfer": return hall.transfer(a, b);
-            case "decide": return hall.decide(a, b != 0);
-            case "letGo": return hall.letGo(a);
-            case "load": return hall.load(a);
-            case "offload": return hall.offload(a);
-            case "sendOn": return hall.sendOn(a, b);
-            case "bags": return hall.bags();
-            case "placeOf": return hall.placeOf(a);
-            case "placeByScans": return hall.placeByScans(a, b);
-            case "flightOf": return hall.flightOf(a);
-            case "count": return hall.count(a);
-            case "atLateral": return hall.atLateral(a);
-            case "unmatched": return hall.unmatched(a);
-            case "untilClose": return hall.untilClose(a);
-            case "scans": return hall.scans();
-            case "bagOfScan": return hall.bagOfScan(a);
-            case "placeOfScan": return hall.placeOfScan(a);
-            default: throw new UnsupportedOperationException(name);
         }
     }
 }
